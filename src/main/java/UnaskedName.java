@@ -1790,9 +1790,12 @@ public final class UnaskedName {
         private boolean takesPart(Tape tape, Law draft) {
             int number = tape.numberIn(0, Law.ADD_WORD - 1);
             int step = number == NONE ? partAt(tape) : number;
+            if (step == NONE) {
+                return false;
+            }
             draft.addStep(step);
             state = state == LEFT_PART ? BEHIND_LEFT_PART : BEHIND_RIGHT_PART;
-            return step != NONE;
+            return true;
         }
 
         private static int partAt(Tape tape) {

@@ -179,6 +179,9 @@ public final class UnaskedNamePromises {
         storyFault("nameab credit 1", 0);
         storyFault("word 1 of", 9);
         storyFault("word 1 off a", 7);
+        storyFault("word 1 of g", 10);
+        storyFault("word 1 of 1", 10);
+        storyFault("talkz 1", 0);
         storyFault("word 1 of a b", 12);
         storyFault("word of a", 5);
         storyFault("deed 21 costs 1", 5);
@@ -293,6 +296,11 @@ public final class UnaskedNamePromises {
         holds("sure or sure or sure or true", true);
         holds("true and true and sure and true", false);
         holds("999 > 998", true);
+        UnaskedName l = told("word 5;friend 0");
+        StringBuilder longest = new StringBuilder("sting 1 if2<1");
+        for (int i = 0; i < 76; i++) longest.append("or2<1");
+        due(5, "a law as long as the tape", 1, () -> law(l, longest + "or1<2  "));
+        due(11, "its last part holds", 6, () -> l.stings(0, 0));
         UnaskedName y = told("word 5;word 5 of a;word 5 of b;friend 0;friend 1;deed 2 costs 1;deed 2 costs 1;name a credit 1");
         law(y, "soothe 3 if true;soothe 5 if deed > 0;soothe 7 if who + word > 0;soothe 1 if sure;sting 1 if true;sting 2 if sure;sting 4 if word > 1;sting 8 if who > 0");
         due(10, "eases 0", 3, () -> y.deed(0, 2));
@@ -503,6 +511,12 @@ public final class UnaskedNamePromises {
         due(21, "first", 50, () -> z.first(NONE));
         story(z, "year 49");
         due(21, "first, the year is short", NONE, () -> z.first(NONE));
+        UnaskedName late = told("word 0;friend 0;limit 20;year 400");
+        law(late, "sting 20 if night > 398");
+        due(21, "first, the last there can be", 400, () -> late.first(NONE));
+        due(20, "ahead, the last there can be", 20, () -> late.ahead(NONE, 400));
+        due(20, "ahead, one less", 0, () -> late.ahead(NONE, 399));
+        due(20, "ahead by none", 0, () -> late.ahead(NONE, 0));
         story(z, "year 50;limit 1");
         z.say(0, 0);
         due(21, "first, she asked already", 1, () -> z.first(NONE));
@@ -531,6 +545,7 @@ public final class UnaskedNamePromises {
         due(24, "11: by a deed not in one night", 0, () -> x.keeps(11, 1));
         due(24, "14: only the second", 1, () -> x.keeps(15, 1));
         due(24, "18: no deed helps", NONE, () -> x.keeps(18, 1));
+        due(24, "keeps(0, 11)", NONE, () -> x.keeps(0, 11));
         due(24, "doubt above the limit", NONE, () -> x.keeps(99, 1));
         UnaskedName f = told("word 9;friend 0;limit 5");
         due(22, "friends are no enemies", NONE, () -> f.siege(12));
@@ -627,6 +642,10 @@ public final class UnaskedNamePromises {
         UnaskedName z = told("name a credit 1;name b credit 1;name c credit 1;name d credit 1;name e credit 1;name f credit 1");
         due(29, "one letter each", 5, z::worst);
         due(27, "the least of several", 0, z::best);
+        UnaskedName two = told("name bc credit 1;name d credit 1");
+        due(27, "best of two", 1, two::best);
+        due(28, "of several the least", 2, two::learns);
+        due(29, "worst of two", 1, two::worst);
         UnaskedName w = told("name abc credit 1;name bc credit 1;name ac credit 1;name ab credit 1");
         due(28, "the least as bits of three", 7, w::learns);
         w.his(1);
@@ -640,6 +659,7 @@ public final class UnaskedNamePromises {
         due(36, "alone of none", 0, e::alone);
         due(37, "seals of none", 0, () -> e.seals(-1));
         UnaskedName x = told("duty ab;duty bc;duty cd;duty e;duty fa");
+        due(34, "duty(0)", 3, () -> x.duty(0));
         due(34, "duty(2)", 12, () -> x.duty(2));
         due(34, "duty(5)", INDEX, () -> x.duty(5));
         due(34, "duty(-1)", INDEX, () -> x.duty(-1));
@@ -653,6 +673,7 @@ public final class UnaskedNamePromises {
         story(x, "duty f;duty d;duty abcdef");
         due(35, "four", 58, x::cover);
         due(36, "d, e, f", 56, x::alone);
+        due(35, "of several the least", 2, () -> told("duty fb").cover());
         UnaskedName y = told("duty bc;duty ac");
         due(35, "one", 4, y::cover);
         UnaskedName z = told("duty a;duty b;duty c;duty d;duty e;duty f");
@@ -714,6 +735,9 @@ public final class UnaskedNamePromises {
         due(42, "of several the least", 1, () -> x.sharpest(0));
         UnaskedName w = told("word 0;friend 0");
         due(42, "a word of no sting", 0, () -> w.sharpest(0));
+        UnaskedName same = told("deed 5 costs 2;deed 5 costs 2;deed 5 costs 3;doubt 5");
+        due(41, "of several the least", 1, () -> same.cheapest(0, false));
+        due(41, "cheapest(99)", 0, () -> same.cheapest(99, false));
         due(41, "no deeds", NONE, () -> told("doubt 1").cheapest(0, false));
         due(41, "no deeds, no doubt", 0, () -> told("doubt 1").cheapest(1, false));
     }
@@ -724,6 +748,8 @@ public final class UnaskedNamePromises {
         due(44, "similar(-1, 9)", INDEX, () -> x.similar(-1, 9));
         due(44, "similar(0, -1)", ARGUMENT, () -> x.similar(0, -1));
         due(44, "similar(0, 7)", ARGUMENT, () -> x.similar(0, 7));
+        due(44, "similar(3, 0)", 0, () -> x.similar(3, 0));
+        due(44, "similar(3, 6)", 7, () -> x.similar(3, 6));
         due(44, "similar(3, 3)", 7, () -> x.similar(3, 3));
         due(44, "similar(3, 2)", 0, () -> x.similar(3, 2));
         x.crumb(0);
@@ -747,6 +773,9 @@ public final class UnaskedNamePromises {
         due(46, "not asked", 0, () -> y.trial(2, true));
         due(46, "three nights", 3, () -> y.trial(60, false));
         due(46, "asked", 1, () -> y.trial(3, true));
+        due(46, "trial of no night", 0, () -> y.trial(0, false));
+        due(47, "span of no night", 0, () -> y.span(0));
+        due(47, "span of 60", 6, () -> y.span(60));
         due(47, "in none", 0, () -> y.span(2));
         due(47, "in all", 6, () -> y.span(3));
         due(46, "nothing stays", 0, () -> y.count(9) + y.count(7) + y.count(17));
