@@ -1743,7 +1743,7 @@ public final class UnaskedName {
                     }
                     return tape.isSign(';') && endsLine(draft);
                 case ATOM:
-                    return takesAtom(tape, draft);
+                    return takesAtom(tape, draft) || takesPart(tape, draft);
                 case LEFT_PART:
                 case RIGHT_PART:
                     return takesPart(tape, draft);
@@ -1770,6 +1770,7 @@ public final class UnaskedName {
             return blunts || soothes || tape.isWord("sting");
         }
 
+        /** All that an atom may begin with but a part of a sum. */
         private boolean takesAtom(Tape tape, Law draft) {
             boolean isNot = tape.isWord("not");
             if (isNot || tape.isSign('(')) {
@@ -1783,8 +1784,7 @@ public final class UnaskedName {
                 endAtom(draft);
                 return true;
             }
-            state = LEFT_PART;
-            return takesPart(tape, draft);
+            return false;
         }
 
         private boolean takesPart(Tape tape, Law draft) {
@@ -1794,7 +1794,7 @@ public final class UnaskedName {
                 return false;
             }
             draft.addStep(step);
-            state = state == LEFT_PART ? BEHIND_LEFT_PART : BEHIND_RIGHT_PART;
+            state = state == RIGHT_PART ? BEHIND_RIGHT_PART : BEHIND_LEFT_PART;
             return true;
         }
 
