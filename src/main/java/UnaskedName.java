@@ -333,7 +333,8 @@ public final class UnaskedName {
 
     public int keeps(int doubt, int n) throws IllegalArgumentException {
         need(doubt >= 0 && doubt <= TOP_DOUBT && n >= 0 && n < SIEGE_NIGHTS);
-        return world.mind.asked ? NONE : enemies.bestDefence(world, doubt, n);
+        // It is asked of a told doubt, not of the one that is: so also if he is gone.
+        return enemies.bestDefence(world, doubt, n);
     }
 
     public int fewest(int who) throws IndexOutOfBoundsException {

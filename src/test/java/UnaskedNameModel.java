@@ -358,7 +358,6 @@ public final class UnaskedNameModel {
         }
 
         int keeps(int doubt, int n) {
-            if (s.asked) return NONE;
             int best = NONE, late = -1;
             for (int d = NONE; d < s.deeds.size(); d++) {
                 State c = s.copy();

@@ -568,7 +568,12 @@ public final class UnaskedNamePromises {
         d.say(0, 0);
         due(22, "gone", NONE, () -> d.siege(1));
         due(23, "gone", NONE, () -> d.plan(1));
-        due(24, "gone", NONE, () -> d.keeps(10, 1));
+        due(24, "gone, a told doubt that a deed keeps", 0, () -> d.keeps(10, 1));
+        due(24, "gone, a told doubt that needs no deed", NONE, () -> d.keeps(9, 1));
+        due(24, "gone, a told doubt that no deed keeps", NONE, () -> d.keeps(11, 11));
+        due(24, "gone, no such doubt", ARGUMENT, () -> d.keeps(100, 1));
+        due(24, "gone, no such nights", ARGUMENT, () -> d.keeps(10, 12));
+        due(24, "he is gone still", 1, () -> d.count(13));
         due(22, "gone, wrong", ARGUMENT, () -> d.siege(0));
         due(25, "gone", NONE, () -> d.fewest(0));
         due(26, "gone", NONE, () -> d.silence(1));
