@@ -238,6 +238,8 @@ public final class UnaskedNameEdges {
         y.keep(0, false);
         story(y, "friend 0");
         due(6, "the new one is near, the other is not", () -> y.count(15));
+        due(0, "kept away", () -> y.court(0, 2));
+        due(1, "near", () -> y.court(2, 2));
     }
 
     private static void words() {
@@ -378,6 +380,7 @@ public final class UnaskedNameEdges {
         wrongStory(20, "name a credit 1;his 1;name b credit 1");
         due(1, "the second", () -> told("name a credit 1;name b credit 1;his 1").count(11));
         due(9, "the tenth", () -> { UnaskedName f = full(); story(f, "his 9"); return f.count(11); });
+        due(0, "the first again", () -> told("name a credit 1;name b credit 1;his 1;his 0").count(11));
         wrongStory(4, full(), "his 10");
     }
 
@@ -502,6 +505,23 @@ public final class UnaskedNameEdges {
         due(NONE, "no law", () -> new UnaskedName().count(6));
         due(1, "as many as one likes", () -> { for (int i = 0; i < 30; i++) law(x, "sting 1"); return law(x, "sting 2"); });
         due(7, "stings", () -> x.stings(0, 0));
+        UnaskedName y = told("word 5;friend 0");
+        String first = "sting 1 if 1<2" + again("or 1<2", 60);
+        String second = "sting 2 if 2<1" + again("or 2<1", 60);
+        for (int i = 0; i < 4; i++) {
+            due(1, "a long one", () -> law(y, first));
+            due(6, "it holds", () -> y.stings(0, 0));
+            due(1, "another long one", () -> law(y, second));
+            due(5, "it does not hold", () -> y.stings(0, 0));
+        }
+        due(ARGUMENT, "a wrong one, in the midst of six deep", () -> law(y, "sting 1 if not(not(not(true and"));
+        due(1, "six deep", () -> law(y, "sting 3 if ((((((1<2))))))"));
+        due(8, "it holds", () -> y.stings(0, 0));
+        due(ARGUMENT, "a wrong one, in the midst of an and", () -> law(y, "sting 1 if true or 1 < 2 and"));
+        due(1, "a plain one", () -> law(y, "sting 4 if 1<2"));
+        due(9, "it holds", () -> y.stings(0, 0));
+        due(4, "each LINE by itself", () -> law(y, "sting 1 if 2<1;sting 2;sting 4 if 1<2;blunt 1"));
+        due(10, "those that hold", () -> y.stings(0, 0));
         says("All numbers are of 1 to 3 digits (N 0 to 20)");
         rightLaw(3, "sting 0;blunt 020;soothe 20");
         wrongLaw(6, "sting 21");
@@ -593,6 +613,9 @@ public final class UnaskedNameEdges {
         rightLaw(1, "sting 1 if " + again("not ", 6) + "true or " + again("not ", 6) + "sure");
         rightLaw(1, "sting 1 if (((((true and(true)or(true))))) and true)");
         rightLaw(2, times("sting 1 if ((((((1 < 2))))))", 2));
+        String full = again("2<1 or 1<2 and(", 6) + "2<1 or 1<2 and ";
+        due(6, "or and and at each depth, at last it holds", () -> ruled("sting 1 if " + full + "1<2" + again(")", 6), "word 5;friend 0").stings(0, 0));
+        due(5, "or and and at each depth, at last it does not", () -> ruled("sting 1 if " + full + "2<1" + again(")", 6), "word 5;friend 0").stings(0, 0));
         wrongLaw(59, "sting 1 if ((((((true)))))) and (((((true or not true and (not true");
         says("the first wrong byte: the text's length, if more must come");
         wrongLaw(400, "sting 1 if true or" + again(" ", 382));
@@ -617,6 +640,7 @@ public final class UnaskedNameEdges {
         due(11, "0, 5", () -> y.stings(0, 5));
         due(12, "5, 0", () -> y.stings(5, 0));
         due(5, "5, 5", () -> y.stings(5, 5));
+        due(6, "deed is 0, not less", () -> ruled("sting 1 if deed + 1 > 0;sting 2 if deed > 0", "word 5;friend 0").stings(0, 0));
         says("true: it tells a TRAIT that HIS NAME has");
         UnaskedName z = ruled("sting 1 if true", "word 0 of a;word 0 of b;word 0;friend 0");
         due(0, "without a NAME", () -> z.stings(0, 0));
@@ -632,6 +656,8 @@ public final class UnaskedNameEdges {
             "word 0 of a;friend 0;name a credit 1;" + times("deed 1 costs 1", 4));
         due(9, "the first", () -> w.deed(0, 2));
         due(10, "the last", () -> w.deed(3, 2));
+        due(6, "word is 0, not less", () -> ruled("soothe 1 if word + 1 > 0;soothe 2 if word > 0", "deed 5 costs 1").deed(0, 2));
+        due(6, "who is 0, not less", () -> ruled("soothe 1 if who + 1 > 0;soothe 2 if who > 0", "deed 5 costs 1").deed(0, 2));
         says("less that of all blunt LINES (0 at least)");
         due(0, "more than it was", () -> ruled("blunt 6", "word 5;friend 0").stings(0, 0));
         due(0, "all that it was", () -> ruled("blunt 5", "word 5;friend 0").stings(0, 0));
@@ -890,12 +916,21 @@ public final class UnaskedNameEdges {
         due(1, "a word of no sting", () -> told("word 0;enemy 0;doubt 9;limit 9").siege(1));
         due(NONE, "no word of sting", () -> told("word 0;enemy 0;doubt 8;limit 9").siege(12));
         due(1, "99 at most", () -> told("word 20;enemy 0;doubt 90;limit 99").siege(12));
+        due(1, "at 99 of 99", () -> told("word 0;enemy 0;doubt 99;limit 99").siege(12));
         says("else some DEED is done, or none; whatever DEEDS are done");
         due(NONE, "a deed that keeps", () -> told("word 5;enemy 0;limit 6;deed 5 costs 9").siege(12));
         due(2, "one that does not", () -> told("word 5;enemy 0;limit 6;deed 4 costs 9").siege(12));
         due(3, "0 at least", () -> told("word 5;enemy 0;limit 7;deed 4 costs 9").siege(12));
         due(9, "none, as the deed makes it worse", () -> ruled("sting 20 if doubt < 1", "word 1;enemy 0;limit 10;deed 20 costs 9;doubt 1").siege(12));
+        due(2, "0 at least, and no less", () -> ruled("sting 5 if night > 0", "word 5;enemy 0;limit 10;deed 20 costs 9").siege(12));
+        due(NONE, "it eases by the doubt behind the word", () -> ruled("soothe 5 if doubt > 4 and doubt < 6", "word 5;enemy 0;limit 6;deed 0 costs 9").siege(12));
+        due(2, "not by the doubt ahead of it", () -> ruled("soothe 5 if doubt < 1", "word 5;enemy 0;limit 6;deed 0 costs 9").siege(12));
+        due(NONE, "each deed by that doubt, and not by what another deed leaves", () -> ruled("soothe 3 if deed > 0 and doubt > 4", "word 5;enemy 0;limit 9;deed 1 costs 1;deed 0 costs 1").siege(2));
+        due(4, "it eases by the night", () -> ruled("soothe 4 if night < 2", "word 4;enemy 0;limit 8;deed 0 costs 9").siege(12));
+        due(NONE, "from a night on", () -> ruled("soothe 4 if night > 0", "word 4;enemy 0;limit 9;deed 0 costs 9").siege(12));
         says("TRAITS tell nothing in it (POSSIBLE stays as it is), NIGHT goes on; YEAR not looked at");
+        due(1, "how many are possible", () -> ruled("sting 9 if left > 1", "word 1;enemy 0;limit 10;name a credit 1;name b credit 1").siege(12));
+        due(1, "true", () -> ruled("sting 9 if true", "word 1 of b;enemy 0;limit 10;name a credit 1;name b credit 1;his 1").siege(12));
         due(2, "traits", () -> ruled("blunt 5 if sure", "word 5 of a;enemy 0;limit 10;name a credit 1;name b credit 1").siege(12));
         due(4, "night", () -> ruled("sting 10 if night > 2", "word 0;enemy 0;limit 10").siege(12));
         due(12, "year", () -> { UnaskedName y = told("word 1;enemy 0;limit 12;year 1;talk 0"); y.nights(1); return y.siege(12); });
@@ -918,6 +953,7 @@ public final class UnaskedNameEdges {
         says("none, if it does as well that nobody SAYS any, or if there is no such SIEGE");
         due(NONE, "as well", () -> ruled("sting 20 if night > 0", "word 1;enemy 0;limit 20").plan(12));
         due(0, "not as well", () -> ruled("sting 20 if night > 0", "word 1;enemy 0;limit 1").plan(12));
+        due(0, "a night later it would", () -> ruled("sting 20 if night > 1", "word 10;enemy 0;limit 20").plan(12));
         due(NONE, "no siege", () -> told("word 1;enemy 0;limit 13").plan(12));
         due(NONE, "not in so many", () -> told("word 1;enemy 0;limit 12").plan(11));
         due(0, "in so many", () -> told("word 1;enemy 0;limit 12").plan(12));
@@ -933,6 +969,8 @@ public final class UnaskedNameEdges {
         due(ARGUMENT, "-1 nights", () -> x.keeps(0, -1));
         due(ARGUMENT, "12 nights", () -> x.keeps(0, 12));
         due(NONE, "0 nights", () -> x.keeps(99, 0));
+        due(NONE, "0 nights, and a deed would help in one", () -> x.keeps(9, 0));
+        due(0, "99 of 99", () -> told("word 0;enemy 0;limit 99;deed 1 costs 1").keeps(99, 11));
         due(NONE, "4 is sure in two, so none", () -> x.keeps(4, 1));
         due(0, "5, 1", () -> x.keeps(5, 1));
         due(1, "8, 1", () -> x.keeps(8, 1));
@@ -948,8 +986,10 @@ public final class UnaskedNameEdges {
         due(NONE, "no DEED", () -> told("word 5;enemy 0;limit 10").keeps(5, 1));
         due(NONE, "nobody", () -> new UnaskedName().keeps(99, 11));
         due(1, "the law looks at the told doubt", () -> ruled("soothe 9 if deed > 0 and doubt > 4", "word 5;enemy 0;limit 10;deed 0 costs 1;deed 0 costs 1").keeps(5, 1));
+        due(1, "and not at what another deed leaves", () -> ruled("soothe 3 if deed > 0 and doubt > 4", "word 5;enemy 0;limit 9;deed 1 costs 1;deed 0 costs 1").keeps(5, 1));
         due(NONE, "and not at doubt now", () -> ruled("soothe 9 if doubt > 5", "word 5;enemy 0;limit 10;deed 0 costs 1;doubt 9").keeps(5, 1));
         due(0, "the deed is of this night", () -> ruled("soothe 9 if night < 1", "word 5;enemy 0;limit 10;deed 0 costs 1").keeps(5, 1));
+        due(0, "of this night, and not of the one before", () -> { UnaskedName y = ruled("soothe 9 if night > 2", "word 5;enemy 0;limit 10;deed 0 costs 1;talk 0"); y.nights(3); return y.keeps(5, 1); });
         due(NONE, "the words are of the next", () -> ruled("blunt 5 if night > 0", "word 5;enemy 0;limit 10;deed 9 costs 1").keeps(9, 11));
     }
 
@@ -961,6 +1001,10 @@ public final class UnaskedNameEdges {
         due(1, "99 at most", () -> told("word 20;friend 0;limit 99;doubt 80").fewest(0));
         due(1, "doubt is there, a word must come", () -> told("word 0;friend 0;limit 9;doubt 9").fewest(0));
         due(NONE, "no sting", () -> told("word 0;friend 0;limit 9").fewest(0));
+        due(1, "at 99 of 99", () -> told("word 0;friend 0;limit 99;doubt 99").fewest(0));
+        due(NONE, "at 98 of 99", () -> told("word 0;friend 0;limit 99;doubt 98").fewest(0));
+        due(2, "of two ways to the same DOUBT", () -> ruled("sting 20 if sure", "word 0 of a;word 0 of b;friend 0;limit 20;name ab credit 1;name b credit 1;name c credit 1").fewest(0));
+        due(2, "whichever comes first", () -> ruled("sting 20 if sure", "word 0 of b;word 0 of a;friend 0;limit 20;name ab credit 1;name a credit 1;name c credit 1").fewest(0));
         due(INDEX, "nobody", () -> new UnaskedName().fewest(0));
         due(INDEX, "NONE", () -> full().fewest(NONE));
         due(2, "TRAITS tell what they tell", () -> ruled("sting 10 if sure", "word 0 of a;word 1;friend 0;limit 10;name a credit 1;name b credit 1").fewest(0));
@@ -1108,6 +1152,7 @@ public final class UnaskedNameEdges {
         due(NONE, "a deed makes no row", () -> { UnaskedName x = spoken("limit 10", 6); story(x, "limit 12"); return x.began(); });
         says("LOUDEST: the most rows of THE LOG have a DOUBT that is greater than that of all older rows of it (of several the least; none without such a row)");
         due(NONE, "no row", () -> full().loudest());
+        due(0, "the oldest row, of a DOUBT of 0", () -> { UnaskedName x = told("word 0;friend 0"); x.say(0, 0); return x.loudest(); });
         UnaskedName y = told("word 1;word 0;friend 0;friend 0;deed 20 costs 1;limit 99");
         y.say(1, 0);
         due(1, "one row", y::loudest);
