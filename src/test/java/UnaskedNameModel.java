@@ -316,9 +316,18 @@ public final class UnaskedNameModel {
 
         static final int NEVER = 9999;
 
+        /** What was found of a night, a doubt and so many nights more: without it twelve nights would take too long. */
+        java.util.Map<Integer, Boolean> found = new java.util.HashMap<>();
+
         /** Whether enemies can make her ask within so many nights, by trying all. */
         boolean forced(State st, int nights) {
             if (nights == 0) return false;
+            int key = (st.night * 100 + st.doubt) * 13 + nights;
+            Boolean known = found.get(key);
+            if (known == null) found.put(key, known = forcedByTrying(st, nights));
+            return known;
+        }
+        boolean forcedByTrying(State st, int nights) {
             if (anyDeedForced(st, nights)) return true;
             for (int w = 0; w < st.court.size(); w++) {
                 if (st.court.get(w)[0] != 1 || st.court.get(w)[2] != 1) continue;
@@ -345,7 +354,7 @@ public final class UnaskedNameModel {
             }
             return f;
         }
-        int siege(State st, int n) { for (int k = 1; k <= n; k++) if (forced(st, k)) return k; return NEVER; }
+        int siege(State st, int n) { found.clear(); for (int k = 1; k <= n; k++) if (forced(st, k)) return k; return NEVER; }
 
         int plan(int n) {
             if (s.asked) return NONE;
@@ -878,7 +887,7 @@ public final class UnaskedNameModel {
 
     static String lawRight() {
         for (int i = 0; i < 60; i++) {
-            String t = lawGuess();
+            String t = r(8) == 0 ? lawDense() : lawGuess();
             try {
                 lawText(t);
                 if (t.length() <= 400) return t;
@@ -892,10 +901,10 @@ public final class UnaskedNameModel {
     static String storyGuess(boolean early) {
         StringBuilder t = new StringBuilder();
         if (early) t.append("word ").append(r(9)).append(";word ").append(r(9)).append(" of a;enemy 0;deed ").append(r(6)).append(" costs 1;");
-        int lines = 1 + r(early ? 9 : 3);
+        int lines = 1 + r(early ? 9 : reach);
         for (int i = 0; i < lines; i++) {
             if (i > 0) t.append(r(6) == 0 ? " ; " : ";");
-            t.append(storyLine(3));
+            t.append(storyLine(reach));
         }
         return t.toString();
     }
@@ -924,6 +933,17 @@ public final class UnaskedNameModel {
         StringBuilder t = new StringBuilder(atomText(deep));
         for (int i = 0; i < 3 && r(3) == 0; i++) t.append(pick(" and ", " or ")).append(atomText(deep));
         return t.toString();
+    }
+
+    /** As many conditions as the TAPE has room for, without a blank that need not be. */
+    static String lawDense() {
+        StringBuilder t = new StringBuilder(pick("sting3if", "blunt3if", "soothe3if")).append(r(3)).append("<1");
+        while (true) {
+            String more = pick("or", "or", "or", "and") + pick("(", "", "", "") + r(3) + pick("<", ">") + r(3);
+            String close = more.indexOf('(') < 0 ? "" : "or2>who)";
+            if (t.length() + more.length() + close.length() > 400) return t.toString();
+            t.append(more).append(close);
+        }
     }
 
     static String lawGuess() {
@@ -974,10 +994,10 @@ public final class UnaskedNameModel {
     static int argument(String f, int i) {
         if (r(60) == 0) return pickInt(Integer.MIN_VALUE, Integer.MAX_VALUE, -2, 1000, 65536, -1);
         switch (f) {
-            case "siege": case "plan": return r(5);
-            case "keeps": return i == 0 ? r(101) : r(5) - 1;
+            case "siege": case "plan": return r(3) == 0 ? r(14) : r(5);
+            case "keeps": return i == 0 ? r(101) : r(3) == 0 ? r(14) - 1 : r(5) - 1;
             case "ahead": return i == 0 ? r(4) - 1 : r(3) == 0 ? r(402) : r(12);
-            case "first": case "learnt": return r(4) - 1;
+            case "first": case "learnt": return r(reach + 1) - 1;
             case "nights": return r(4) == 0 ? r(62) : r(4);
             case "silence": case "trial": case "span": return i == 1 ? r(2) : r(4) == 0 ? r(62) : r(6);
             case "count": return r(21) - 1;
@@ -985,12 +1005,15 @@ public final class UnaskedNameModel {
             case "fits": case "cheapest": return i == 1 ? r(2) : r(14) - 1;
             case "log": return i == 0 ? r(4) == 0 ? r(62) - 1 : r(4) : r(7) - 1;
             case "similar": return i == 0 ? r(6) - 1 : r(9) - 1;
-            case "led": return r(5) - 1;
+            case "led": return r(reach + 2) - 1;
             case "seed": return random.nextInt();
             case "end": return r(30) - 2;
-            default: return r(12) == 0 ? r(12) - 1 : r(3);
+            default: return r(12) == 0 ? r(12) - 1 : r(reach);
         }
     }
+
+    /** Of the runs some keep to few words and people, some use all that there is room for. */
+    static int reach = 3;
 
     static int pickInt(int... of) { return of[r(of.length)]; }
 
@@ -1057,6 +1080,7 @@ public final class UnaskedNameModel {
         int from = args.length > 1 ? Integer.parseInt(args[1]) : 1;
         for (int i = from; i < from + runs && wrong < 3; i++) {
             random = new Random(i);
+            reach = i % 3 == 0 ? 6 : 3;
             run(200);
         }
         System.out.println(runs + " random runs, " + threw[0] + " answers and " + threw[1] + " exceptions held against the model, "
